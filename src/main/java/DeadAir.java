@@ -1292,7 +1292,7 @@ public final class DeadAir {
         private void takesAtom(int word) {
             draft.put(word);
             draft.atoms++;
-            endPiece();
+            pieceIsDue = false;
         }
 
         private boolean takesSign() {
@@ -1321,14 +1321,7 @@ public final class DeadAir {
             release(LOOSEST);
             brackets--;
             signsMany--;
-            endPiece();
             return true;
-        }
-
-        /** A PIECE is whole, and so is each ! right ahead of it. */
-        private void endPiece() {
-            pieceIsDue = false;
-            release(TIGHTEST);
         }
 
         private void hold(int sign) {

@@ -292,6 +292,11 @@ public final class AheadTest {
         x.set(0, 1, 9);
         x.set(1, 1, 4);
         Due.due("she is first", x.apart(0, 1, 9), 0);
+        DeadAir u = new DeadAir();
+        u.voice(0, 60, 60);
+        u.voice(0, 60, 60);
+        Due.due("59", u.apart(0, 1, 59), 0);
+        Due.due("60", u.apart(0, 1, 60), 1);
         int[][] bad = {{0, 0, 5}, {2, 0, 5}, {0, 2, 5}, {-1, 0, 5}, {0, -1, 5}, {0, 1, 0},
             {0, 1, 61}};
         for (int[] b : bad) {

@@ -12,6 +12,7 @@ public final class RowsTest {
         checkByTheImage();
         checkAtTheLastTenths();
         keepAndBack();
+        countersComeBack();
         whatAnImageLeavesOut();
         textsComeBack();
         count();
@@ -177,6 +178,36 @@ public final class RowsTest {
         y.voice(0, 2, 2);
         Due.due("a newer image", y.keep(), 2);
         Due.due("counts", y.back(), 2);
+    }
+
+    /** What only ever grows is smaller again, one by one. */
+    private static void countersComeBack() {
+        DeadAir x = new DeadAir();
+        x.voice(5, 9, 9);
+        x.voice(5, 9, 9);
+        x.tenths(3);
+        x.keep();
+        int[] was = state(x);
+        x.tenths(9);
+        x.air(1, 5);
+        x.tenths(8);
+        x.air(2, 3);
+        x.tenths(6);
+        x.turns(0, 0);
+        x.turns(1, 0);
+        x.air(2, 0);
+        x.air(1, 110);
+        x.tenths(100);
+        x.turns(1, 5);
+        x.tenths(100);
+        for (int what = 1; what <= 9; what++) {
+            Due.holds("grown: " + what, what == 1 || x.studio(what) > was[what]);
+        }
+        x.back();
+        int[] is = state(x);
+        for (int i = 0; i < was.length; i++) {
+            Due.due("back: " + i, is[i], was[i]);
+        }
     }
 
     private static int[] state(DeadAir x) {

@@ -17,6 +17,7 @@ public final class TextsTest {
         worth();
         worthWrapped();
         usedUp();
+        behindFaults();
         full();
         textTold();
         why();
@@ -89,6 +90,9 @@ public final class TextsTest {
         fault("OFF s", 0);
         fault("fines s", 0);
         fault("fin s", 0);
+        fault("xff s", 0);
+        fault("xee s", 0);
+        fault("xine s", 0);
         fault("s", 0);
         fault("9", 0);
         fault("(off s)", 0);
@@ -319,6 +323,26 @@ public final class TextsTest {
         Due.due("fault", x.text(), -106);
         Due.due("used up by a fault", x.count(5), 0);
         Due.due("nothing is left", x.text(), -100);
+    }
+
+    /** Nothing of a tape with a fault lives on in the next one. */
+    private static void behindFaults() {
+        DeadAir x = new DeadAir();
+        Due.due("a word", Due.text(x, "off zz"), -104);
+        Due.due("behind a word", Due.text(x, "fee 2+3"), 0);
+        Due.due("2+3", x.fee(), 5);
+        Due.due("open brackets", Due.text(x, "fee 1+(2*(((((("), -115);
+        Due.due("eight more", Due.text(x, "fee ((((((((7))))))))"), 1);
+        Due.due("7", x.fee(), 7);
+        Due.due("open !", Due.text(x, "fee 1-!!!!!"), -111);
+        Due.due("eight more", Due.text(x, "fee !!!!!!!!5"), 2);
+        Due.due("1", x.fee(), 1);
+        Due.due("a bracket", Due.text(x, "fee (1"), -106);
+        Due.due("is not open any more", Due.text(x, "fee 1)"), -105);
+        Due.due("a sign", Due.text(x, "fee 9*"), -106);
+        Due.due("does not wait any more", Due.text(x, "fee 4"), 3);
+        Due.due("4", x.fee(), 4);
+        Due.due("numbers", x.textTold(3, 1), 1);
     }
 
     private static void full() {

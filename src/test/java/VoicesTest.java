@@ -72,12 +72,17 @@ public final class VoicesTest {
         DeadAir y = new DeadAir();
         y.keep();
         y.voice(1, 2, 3);
+        y.turns(0, 0);
+        y.voice(0, 2, 3);
+        y.tenths(2);
         y.set(0, 3, 7);
         y.speak(0, 9);
+        Due.holds("back is not 0", y.told(0, 5) > 0);
         y.back();
         Due.due("again", y.voice(2, 4, 5), 0);
         Due.due("pause", y.told(0, 3), 0);
         Due.due("left", y.told(0, 4), 0);
+        Due.due("back", y.told(0, 5), 0);
         Due.due("said", y.told(0, 6), 0);
     }
 
