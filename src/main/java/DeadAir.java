@@ -240,7 +240,8 @@ public final class DeadAir {
         for (int wait = 1; wait <= 60; wait++) {
             thought.become(now);
             thought.voices[voice].wait = wait;
-            best.weigh(wait, thought.listenersBehind(n));
+            thought.run(n);
+            best.weigh(wait, thought.listeners);
         }
         return best.answer(what);
     }
@@ -253,7 +254,8 @@ public final class DeadAir {
         for (int cut = 5; cut <= 200; cut += 5) {
             thought.become(now);
             thought.cut = cut;
-            best.weigh(cut, thought.listenersBehind(n));
+            thought.run(n);
+            best.weigh(cut, thought.listeners);
         }
         return best.answer(what);
     }
@@ -266,7 +268,8 @@ public final class DeadAir {
         for (int fill = 0; fill <= 60; fill++) {
             thought.become(now);
             thought.fill = fill;
-            best.weigh(fill, thought.listenersBehind(n));
+            thought.run(n);
+            best.weigh(fill, thought.listeners);
         }
         return best.answer(what);
     }
@@ -279,7 +282,8 @@ public final class DeadAir {
         for (int kind = VOICE; kind <= QUIET; kind++) {
             thought.become(now);
             thought.voices[voice].kind = kind;
-            best.weigh(kind, thought.listenersBehind(n));
+            thought.run(n);
+            best.weigh(kind, thought.listeners);
         }
         return best.answer(what);
     }
@@ -367,8 +371,7 @@ public final class DeadAir {
         }
         int number = now.textsMany;
         texts.list[number].become(reader.draft);
-        now.counting[reader.draft.key] = number;
-        now.textsMany++;
+        now.addText(reader.draft.key);
         return number;
     }
 
@@ -708,13 +711,11 @@ public final class DeadAir {
 
         int waits(boolean isLast) {
             int asVoice = wait + back + (isLast ? pause : 0);
-            int asHost = Math.max(1, asVoice - 2);
-            int asGuest = asVoice + 3;
             switch (kind) {
-                case HOST: return asHost;
-                case LEAD: return Math.max(1, asHost / 2);
-                case GUEST: return asGuest;
-                case SHY: return 2 * asGuest;
+                case HOST: return Math.max(1, asVoice - 2);
+                case LEAD: return Math.max(1, Math.max(1, asVoice - 2) / 2);
+                case GUEST: return asVoice + 3;
+                case SHY: return 2 * (asVoice + 3);
                 default: return asVoice;
             }
         }
@@ -841,6 +842,14 @@ public final class DeadAir {
             seat(kind, wait, talk);
         }
 
+        /** One more TEXT, which counts for its KEY from now on. */
+        void addText(int key) {
+            if (within(key, OFF, FINE)) {
+                counting[key] = textsMany;
+                textsMany++;
+            }
+        }
+
         /** Whether v is within the bounds of LISTENERS, CUT, FILL (what 0 .. 2). */
         static boolean allows(int what, int v) {
             switch (what) {
@@ -877,15 +886,6 @@ public final class DeadAir {
             return set;
         }
 
-        private boolean nobodySpeaks() {
-            for (int i = 0; i < many; i++) {
-                if (voices[i].left > 0) {
-                    return false;
-                }
-            }
-            return true;
-        }
-
         /** The rest of a draw by n. */
         private int drawBelow(int n) {
             z = z * 1103515245 + 12345;
@@ -899,23 +899,20 @@ public final class DeadAir {
             }
         }
 
-        int listenersBehind(int n) {
-            run(n);
-            return listeners;
-        }
-
         /** (1) and (2) of A TENTH. */
         void hear() {
+            boolean nobodySpeaks = true;
             for (int i = 0; i < many; i++) {
                 Voice her = voices[i];
-                if (her.left > 0) {
+                if (her.left > 1) {
                     her.left--;
-                    if (her.left == 0) {
-                        last = i;
-                    }
+                    nobodySpeaks = false;
+                } else if (her.left == 1) {
+                    her.left = 0;
+                    last = i;
                 }
             }
-            if (nobodySpeaks()) {
+            if (nobodySpeaks) {
                 silence++;
                 silent++;
                 longestHole = Math.max(longestHole, silence);
@@ -924,32 +921,41 @@ public final class DeadAir {
             }
         }
 
-        /** (3) and (4) of A TENTH. */
+        /**
+         * (3) and (4) of A TENTH. By (2) SILENCE is 0 just if somebody speaks. And (4) is left to
+         * those TENTHS in which nobody is READY: else one speaks by (3), or SILENCE is 0 by it.
+         */
         void goOn() {
-            if (nobodySpeaks()) {
-                answerSilence();
-                if (silence != 0 && nobodySpeaks()) {
+            if (silence != 0) {
+                int ready = whoIsReady();
+                if (ready == 0) {
                     bearSilence();
+                } else {
+                    answerSilence(ready);
                 }
             }
             tenth++;
         }
 
-        private void answerSilence() {
+        private int whoIsReady() {
             int ready = 0;
-            int readyMany = 0;
-            int one = 0;
             for (int i = 0; i < many; i++) {
                 if (voices[i].isReady(silence, i == last)) {
                     ready |= 1 << i;
-                    readyMany++;
-                    one = i;
                 }
             }
-            if (readyMany == 1) {
-                beginAlone(one);
-            } else if (readyMany > 1) {
+            return ready;
+        }
+
+        private void answerSilence(int ready) {
+            if (Integer.bitCount(ready) > 1) {
                 cross(ready);
+                return;
+            }
+            for (int i = 0; i < many; i++) {
+                if (ready == 1 << i) {
+                    beginAlone(i);
+                }
             }
         }
 
@@ -963,6 +969,7 @@ public final class DeadAir {
         }
 
         private void cross(int ready) {
+            boolean allYield = true;
             crossed++;
             for (int i = 0; i < many; i++) {
                 if ((ready & (1 << i)) != 0) {
@@ -971,10 +978,11 @@ public final class DeadAir {
                         her.back = drawBelow(6);
                     } else {
                         begin(her);
+                        allYield = false;
                     }
                 }
             }
-            if (nobodySpeaks()) {
+            if (allYield) {
                 silence = 0;
             }
         }
@@ -1083,6 +1091,9 @@ public final class DeadAir {
 
         /** What a TEXT gives, with the numbers that its first, second, third NAME stand for. */
         int give(int text, int first, int second, int third) {
+            if (text < 0 || text >= MOST_TEXTS) {
+                return 0;
+            }
             int[] code = list[text].code;
             int size = list[text].size;
             int top = 0;
@@ -1096,7 +1107,7 @@ public final class DeadAir {
                     }
                 } else if (word == -'!') {
                     if (top >= 1) {
-                        stack[top - 1] = truth(stack[top - 1] == 0);
+                        stack[top - 1] = stack[top - 1] == 0 ? 1 : 0;
                     }
                 } else if (top >= 2) {
                     top--;
@@ -1108,20 +1119,16 @@ public final class DeadAir {
 
         private static int join(int sign, int a, int b) {
             switch (sign) {
-                case '|': return truth(a != 0 || b != 0);
-                case '&': return truth(a != 0 && b != 0);
-                case '<': return truth(a < b);
-                case '=': return truth(a == b);
-                case '>': return truth(a > b);
+                case '|': return a != 0 || b != 0 ? 1 : 0;
+                case '&': return a != 0 && b != 0 ? 1 : 0;
+                case '<': return a < b ? 1 : 0;
+                case '=': return a == b ? 1 : 0;
+                case '>': return a > b ? 1 : 0;
                 case '+': return a + b;
                 case '-': return a - b;
                 case '*': return a * b;
                 default: return b == 0 ? 0 : a / b;
             }
-        }
-
-        private static int truth(boolean holds) {
-            return holds ? 1 : 0;
         }
     }
 

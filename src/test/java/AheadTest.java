@@ -426,7 +426,7 @@ public final class AheadTest {
         x.deal(5);
         x.tenths(13);
         x.sheet(0, 0, 24);
-        int[] was = state(x);
+        int[] was = Due.state(x);
         x.behind(100, 0);
         x.next(0);
         x.hole(200);
@@ -438,26 +438,6 @@ public final class AheadTest {
         x.whose(0, 0);
         x.fee();
         x.fine(0);
-        int[] is = state(x);
-        for (int i = 0; i < was.length; i++) {
-            Due.due("state " + i + " stays", is[i], was[i]);
-        }
-    }
-
-    private static int[] state(DeadAir x) {
-        int[] all = new int[100];
-        int n = 0;
-        for (int what = 0; what <= 10; what++) {
-            all[n++] = x.studio(what);
-        }
-        for (int what = 0; what <= 6; what++) {
-            all[n++] = x.count(what);
-        }
-        for (int voice = 0; voice < 5; voice++) {
-            for (int what = 0; what <= 10; what++) {
-                all[n++] = x.told(voice, what);
-            }
-        }
-        return all;
+        Due.same("state", Due.state(x), was);
     }
 }

@@ -55,6 +55,30 @@ final class Due {
         return (drawn(z, n) >>> 8) % m;
     }
 
+    /** All that studio, count and told tell. */
+    static int[] state(DeadAir x) {
+        int[] all = new int[11 + 7 + 5 * 11];
+        int n = 0;
+        for (int what = 0; what <= 10; what++) {
+            all[n++] = x.studio(what);
+        }
+        for (int what = 0; what <= 6; what++) {
+            all[n++] = x.count(what);
+        }
+        for (int voice = 0; voice < 5; voice++) {
+            for (int what = 0; what <= 10; what++) {
+                all[n++] = x.told(voice, what);
+            }
+        }
+        return all;
+    }
+
+    static void same(String what, int[] is, int[] was) {
+        for (int i = 0; i < was.length; i++) {
+            due(what + ": " + i, is[i], was[i]);
+        }
+    }
+
     static void end() {
         System.out.println(asked + " answers, " + wrong + " not as due");
         if (wrong != 0 || asked == 0) {

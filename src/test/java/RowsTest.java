@@ -151,7 +151,7 @@ public final class RowsTest {
         x.air(2, 4);
         x.tenths(77);
         x.speak(1, 20);
-        int[] was = state(x);
+        int[] was = Due.state(x);
         Due.due("an image of four", x.keep(), 4);
         for (int again = 0; again < 2; again++) {
             x.deal(1);
@@ -166,10 +166,7 @@ public final class RowsTest {
             x.tenths(20);
             x.seed(7 + again);
             Due.due("back", x.back(), 4);
-            int[] is = state(x);
-            for (int i = 0; i < was.length; i++) {
-                Due.due("back: " + i, is[i], was[i]);
-            }
+            Due.same("back", Due.state(x), was);
             Due.due("fill", x.air(2, 4), 4);
         }
         DeadAir y = new DeadAir();
@@ -187,7 +184,7 @@ public final class RowsTest {
         x.voice(5, 9, 9);
         x.tenths(3);
         x.keep();
-        int[] was = state(x);
+        int[] was = Due.state(x);
         x.tenths(9);
         x.air(1, 5);
         x.tenths(8);
@@ -204,27 +201,7 @@ public final class RowsTest {
             Due.holds("grown: " + what, what == 1 || x.studio(what) > was[what]);
         }
         x.back();
-        int[] is = state(x);
-        for (int i = 0; i < was.length; i++) {
-            Due.due("back: " + i, is[i], was[i]);
-        }
-    }
-
-    private static int[] state(DeadAir x) {
-        int[] all = new int[80];
-        int n = 0;
-        for (int what = 0; what <= 10; what++) {
-            all[n++] = x.studio(what);
-        }
-        for (int what = 0; what <= 6; what++) {
-            all[n++] = x.count(what);
-        }
-        for (int voice = 0; voice < 5; voice++) {
-            for (int what = 0; what <= 10; what++) {
-                all[n++] = x.told(voice, what);
-            }
-        }
-        return all;
+        Due.same("back", Due.state(x), was);
     }
 
     private static void whatAnImageLeavesOut() {
