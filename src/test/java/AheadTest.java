@@ -169,6 +169,14 @@ public final class AheadTest {
         Due.text(z, "off 1");
         Due.due("sixty", z.patience(1, 2, 0), 60);
         Due.due("all stay then", z.patience(1, 2, 1), 1000);
+        // one tenth later 61 would be best, but is not tried
+        DeadAir w = silenceOf(59, 59);
+        w.turns(0, 0);
+        w.turns(1, 0);
+        w.air(0, 1000);
+        Due.text(w, "off 1");
+        Due.due("all alike", w.patience(1, 2, 0), 1);
+        Due.due("one is lost", w.patience(1, 2, 1), 999);
         int[][] bad = {{2, 1, 0}, {-1, 1, 0}, {0, 0, 0}, {0, 61, 0}, {0, 1, -1}, {0, 1, 2}};
         for (int[] b : bad) {
             Due.due("patience bad", x.patience(b[0], b[1], b[2]), BAD);
@@ -266,20 +274,34 @@ public final class AheadTest {
             x.seed(z * 7919);
             x.deal(3);
             Due.text(x, "off s");
-            int most = -1;
-            int kind = -1;
-            for (int k = 0; k < 6; k++) {
-                x.keep();
-                x.turns(1, k);
-                if (x.behind(50, 0) > most) {
-                    most = x.behind(50, 0);
-                    kind = k;
-                }
-                x.back();
-            }
-            Due.due("by trying", x.becomes(1, 50, 0), kind);
-            Due.due("by trying", x.becomes(1, 50, 1), most);
+            isBestKind(x, 1, 50);
         }
+        // here she had best be QUIET
+        DeadAir y = new DeadAir();
+        y.seed(724);
+        y.deal(2);
+        y.tenths(30);
+        Due.text(y, "off s");
+        Due.due("quiet", isBestKind(y, 0, 20), 5);
+    }
+
+    /** The kind that is best when each is tried in turn; becomes tells it too. */
+    private static int isBestKind(DeadAir x, int voice, int n) {
+        int most = -1;
+        int kind = -1;
+        x.keep();
+        for (int k = 0; k < 6; k++) {
+            x.turns(voice, k);
+            x.tenths(n);
+            if (x.studio(0) > most) {
+                most = x.studio(0);
+                kind = k;
+            }
+            x.back();
+        }
+        Due.due("by trying", x.becomes(voice, n, 0), kind);
+        Due.due("by trying", x.becomes(voice, n, 1), most);
+        return kind;
     }
 
     private static void apart() {
