@@ -35,6 +35,7 @@ public final class BoundsAheadTest {
         becomesBounds();
         becomesEachKind();
         ofSeveralTheLeast();
+        eachByItself();
         apartBounds();
         apartOneAndTheSame();
         apartFromNoneToTwenty();
@@ -544,6 +545,30 @@ public final class BoundsAheadTest {
         Due.due("none", x.becomes(0, 30, 1), 0);
         x.air(0, 9999);
         Due.due("all", x.becomes(0, 1, 1), 9999);
+    }
+
+    /** What was best before counts no more, nor what was asked before. */
+    private static void eachByItself() {
+        for (int first = 0; first < 4; first++) {
+            for (int then = 0; then < 4; then++) {
+                DeadAir x = new DeadAir();
+                x.voice(5, 9, 9);
+                Due.text(x, "off 1");
+                x.air(0, 9999);
+                Due.due("before", best(x, first), 9998 + (first == 2 ? 1 : 0));
+                x.air(0, 10);
+                Due.due("then", best(x, then), 9 + (then == 2 ? 1 : 0));
+            }
+        }
+    }
+
+    private static int best(DeadAir x, int which) {
+        switch (which) {
+            case 0: return x.patience(0, 1, 1);
+            case 1: return x.device(1, 1);
+            case 2: return x.filler(1, 1);
+            default: return x.becomes(0, 1, 1);
+        }
     }
 
     /** Promise 21: "for n (1 .. 60). BAD". */

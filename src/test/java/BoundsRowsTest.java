@@ -377,11 +377,22 @@ public final class BoundsRowsTest {
     private static void imageOfANewObject() {
         DeadAir x = new DeadAir();
         x.keep();
-        x.deal(5);
-        x.air(0, 5);
         x.air(1, 5);
-        x.air(2, 5);
-        x.tenths(100);
+        x.tenths(20);
+        x.air(2, 3);
+        x.tenths(20);
+        x.air(1, 100);
+        x.air(2, 0);
+        Bounds.voices(x, 2, 0, 9, 9);
+        x.tenths(9);
+        x.turns(0, 5);
+        x.tenths(60);
+        x.hush(1);
+        x.turns(1, 5);
+        x.tenths(5);
+        for (int what = 1; what <= 9; what++) {
+            Due.holds("not as at first: " + what, x.studio(what) > 0);
+        }
         x.back();
         DeadAir asIf = new DeadAir();
         asIf.keep();

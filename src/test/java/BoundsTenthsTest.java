@@ -21,6 +21,7 @@ public final class BoundsTenthsTest {
         twoOrMoreCross();
         crossedIsNoBreath();
         byNumbersEachDraws();
+        whoIsNotReadyStaysOut();
         ifNobodySpeaksThenSilenceIsZero();
         ifOneSpeaksSilenceStays();
         leftIsOneAndTheRest();
@@ -242,6 +243,26 @@ public final class BoundsTenthsTest {
                 Due.due("SAID of " + i, x.told(i, 6), left[i] > 0 ? 1 : 0);
             }
             Due.due("five draws", x.count(6), Bounds.drawn(z, 5));
+        }
+    }
+
+    /** "those who are READY begin": who is not neither begins nor steps back, and draws nothing. */
+    private static void whoIsNotReadyStaysOut() {
+        DeadAir x = new DeadAir();
+        x.voice(5, 1, 60);
+        x.voice(0, 9, 60);
+        x.voice(0, 10, 60);
+        x.voice(1, 12, 60);
+        x.voice(0, 9, 60);
+        x.tenths(9);
+        Due.due("1 and 4 cross", x.studio(CROSSED), 1);
+        Due.due("BACK of 1", x.told(1, 5), Bounds.draw(1, 1, 6));
+        Due.due("BACK of 4", x.told(4, 5), Bounds.draw(1, 2, 6));
+        Due.due("two draws", x.count(6), Bounds.drawn(1, 2));
+        Due.due("the HOST WAITS 10", x.studio(SPEAK), 0);
+        for (int voice : new int[] {0, 2, 3}) {
+            Due.due("BACK of " + voice, x.told(voice, 5), 0);
+            Due.due("SAID of " + voice, x.told(voice, 6), 0);
         }
     }
 

@@ -30,6 +30,8 @@ public final class BoundsTextsTest {
         testsGiveOneOrZero();
         whatIsNotZeroIsTrue();
         textThatWasToldLast();
+        theFirstTextCounts();
+        nothingLivesOn();
         feedTwelveBytes();
         feedFull();
         trimBounds();
@@ -440,6 +442,44 @@ public final class BoundsTextsTest {
         Due.due("one for which there is no room was not told", x.fee(), 13);
         Due.text(x, "fee 99+");
         Due.due("nor one with a FAULT", x.fee(), 13);
+    }
+
+    /** TEXT 0 counts as any other one does, for each KEY. */
+    private static void theFirstTextCounts() {
+        DeadAir x = new DeadAir();
+        x.voice(5, 9, 9);
+        Due.text(x, "fine 7");
+        Due.due("fine", x.fine(0), 7);
+        DeadAir y = new DeadAir();
+        Due.text(y, "fee 7");
+        Due.due("fee", y.fee(), 7);
+        DeadAir z = new DeadAir();
+        Due.text(z, "off 7");
+        z.tenths(1);
+        Due.due("off", z.studio(0), 993);
+    }
+
+    /** A TAPE is read as if none had been read before, wherever the last one ended. */
+    private static void nothingLivesOn() {
+        String[] before = {"fee", "fee 1+", "fee 1*(2", "fee " + times("(", 8), "fee " + times("!", 8),
+            "fee !(1", "fee !1", "fee 12345", "fee zz", "fee 1<2<3", "off 9", "fine " + times("(", 8) + "1", ""};
+        String[] then = {"fee 7", "fee 3+4", "fee " + times("(", 8) + "7" + times(")", 8), "fee 7*" + times("!", 8) + "5"};
+        for (String first : before) {
+            for (String second : then) {
+                DeadAir x = new DeadAir();
+                Due.text(x, first);
+                int many = x.count(3);
+                Due.due("'" + second + "' behind '" + first + "'", Due.text(x, second), many);
+                Due.due("gives", x.fee(), 7);
+            }
+            DeadAir y = new DeadAir();
+            Due.text(y, first);
+            Due.due("a ) behind '" + first + "'", Due.text(y, "fee 1)"), -105);
+            Due.text(y, first);
+            Due.due("a KEY behind '" + first + "'", Due.text(y, "1"), -100);
+            Due.text(y, first);
+            Due.due("an end behind '" + first + "'", Due.text(y, "fee "), -104);
+        }
     }
 
     /** Promise 25: "Twelve bytes come to THE TAPE, the highest of each number first: how many it has." */

@@ -9,6 +9,7 @@ public final class BoundsVoicesTest {
     public static void main(String[] args) {
         studioAtFirst();
         voicesAtFirst();
+        voicesAtFirstWhereOneWas();
         hostWaits();
         leadWaits();
         guestAndShyWait();
@@ -66,6 +67,31 @@ public final class BoundsVoicesTest {
             }
             Due.due("she doesn't speak", x.studio(10), 0);
             Due.due("nor is she LAST", x.studio(9), -1);
+        }
+    }
+
+    /** Nothing of a VOICE who is gone with an image lives on in the next one of her number. */
+    private static void voicesAtFirstWhereOneWas() {
+        for (int drawn = 0; drawn < 2; drawn++) {
+            DeadAir x = new DeadAir();
+            x.keep();
+            x.seed(Bounds.seedFor(1, 6, 5));
+            Bounds.voices(x, 2, 0, 9, 60);
+            x.tenths(9);
+            x.set(0, 3, 40);
+            x.speak(0, 60);
+            for (int what = 3; what <= 6; what++) {
+                Due.holds("not 0 any more: " + what, x.told(0, what) > 0);
+            }
+            x.back();
+            if (drawn == 1) {
+                x.deal(1);
+            } else {
+                x.voice(1, 60, 60);
+            }
+            for (int what = 3; what <= 6; what++) {
+                Due.due("0 at first: what " + what, x.told(0, what), 0);
+            }
         }
     }
 
