@@ -1,3 +1,6 @@
+import java.util.Set;
+import java.util.TreeSet;
+
 /** Counts answers that are not as due, and ends a test by them. */
 final class Due {
     private static int asked = 0;
@@ -76,6 +79,15 @@ final class Due {
     static void same(String what, int[] is, int[] was) {
         for (int i = 0; i < was.length; i++) {
             due(what + ": " + i, is[i], was[i]);
+        }
+    }
+
+    /** Two sets of names are the same; which names one of them lacks is told. */
+    static void same(String what, Set<String> is, Set<String> want) {
+        Set<String> either = new TreeSet<>(is);
+        either.addAll(want);
+        for (String name : either) {
+            holds(what + ": " + name, is.contains(name) && want.contains(name));
         }
     }
 
